@@ -701,16 +701,16 @@ public final class RevealBeacon {
                 return 0;
             }
             shown.put(cell(owner, giver), share);
-            int count = countShown(owner);
+            int givers = findGivers(owner);
+            int count = Integer.bitCount(givers);
             if (count >= threshold) {
-                learn(owner, interpolate(owner), RECOVERED);
+                learn(owner, interpolate(owner, givers), RECOVERED);
             }
             return count;
         }
 
-        /** The value at 0 of the polynomial through the published shares. */
-        int interpolate(int owner) {
-            int givers = findGivers(owner);
+        /** The value at 0 of the polynomial through the shares that these givers have published. */
+        int interpolate(int owner, int givers) {
             int value = 0;
             for (int i = 0; i < members; i++) {
                 if (isAmong(givers, i)) {
@@ -792,7 +792,7 @@ public final class RevealBeacon {
         int combineKnown() {
             int known = countStanding(REVEALED) + countStanding(RECOVERED);
             boolean strict = settings.at(STRICTNESS) == 1;
-            if (known == 0 || strict && known < countBound()) {
+            if (known == 0 || strict && countStanding(COMMITTED) > 0) {
                 return NONE;
             }
             int output = 0;
