@@ -18,6 +18,7 @@ public final class FaceTest {
         + " int keep(int); int back(int)";
 
     public static void main(String[] args) {
+        Checks.name("The public face");
         Checks.due("BAD", RevealBeacon.BAD, -1);
         Checks.due("STATE", RevealBeacon.STATE, -2);
         Checks.due("FULL", RevealBeacon.FULL, -3);

@@ -11,6 +11,7 @@ public final class LanguageTest {
         "static\\s*\\{", "->", "::", "new \\w+\\[\\]\\s*\\{"};
 
     public static void main(String[] args) throws IOException {
+        Checks.name("LANGUAGE.md");
         String source = Files.readString(Path.of("src/main/java/RevealBeacon.java"));
         String code = source.replaceAll("(?s)/\\*.*?\\*/", "").replaceAll("//[^\n]*", "");
         for (String word : FORBIDDEN) {
@@ -23,7 +24,8 @@ public final class LanguageTest {
 
     /** No method or constructor is longer than sixty lines or makes objects in the midst of a run. */
     private static void checkMethods(String code) {
-        Matcher m = Pattern.compile("(?m)^( {8}| {4})(?=\\w)[\\w ]*?(\\w+)\\([^;]*?\\) \\{\n((?:\\1 .*\n|\\s*\n)*)").matcher(code);
+        String head = "(?m)^( {8}| {4})(?=\\w)[\\w ]*?(\\w+)\\([^;]*?\\) \\{\n";
+        Matcher m = Pattern.compile(head + "((?:\\1 .*\n|\\s*\n)*)").matcher(code);
         int methods = 0;
         while (m.find()) {
             methods++;
